@@ -102,11 +102,19 @@ public final class HeapQueries {
     }
 
     public int dominator(int object) {
-        return heap.hasObject(object) ? heap.survey().immediateDominatorOf(object) : NO_SUCH_OBJECT;
+        if (!heap.hasObject(object)) {
+            return NO_SUCH_OBJECT;
+        }
+        heap.refreshSurvey();
+        return heap.survey.immediateDominatorOf(object);
     }
 
     public int retained(int object) {
-        return heap.hasObject(object) ? heap.survey().retainedSizeOf(object) : NONE;
+        if (!heap.hasObject(object)) {
+            return NONE;
+        }
+        heap.refreshSurvey();
+        return heap.survey.retainedSizeOf(object);
     }
 
     public boolean token(int code, int n) {
@@ -150,8 +158,14 @@ public final class HeapQueries {
         if (query == null) {
             return INCOMPLETE;
         }
-        int error = worker.workOut(heap, query);
-        return error == NO_ERROR ? worker.rowCount() : error;
+        heap.refreshSurvey();
+        worker.begin();
+        int error = worker.addQuery(heap, query, 0);
+        if (error != NO_ERROR) {
+            worker.dropRows();
+            return error;
+        }
+        return worker.rowCount();
     }
 
     public int rows() {
@@ -184,21 +198,27 @@ public final class HeapQueries {
 
         private static final int HALF = 32;
         private static final long LOWER_HALF = 0xFFFFFFFFL;
+        private static final long NUMBER_BITS = (long) NUMBER_KIND << HALF;
+        private static final long LINK_BITS = (long) LINK_KIND << HALF;
+        private static final long ERROR_BITS = (long) ERROR_KIND << HALF;
+
+        static final long ZERO = NUMBER_BITS;
+        static final long ONE = NUMBER_BITS | 1L;
 
         static long number(int n) {
-            return packed(NUMBER_KIND, n);
+            return NUMBER_BITS | n & LOWER_HALF;
         }
 
         static long link(int object) {
-            return packed(LINK_KIND, object);
+            return LINK_BITS | object & LOWER_HALF;
         }
 
         static long error(int error) {
-            return packed(ERROR_KIND, error);
+            return ERROR_BITS | error & LOWER_HALF;
         }
 
         static long flag(boolean holds) {
-            return number(holds ? 1 : 0);
+            return holds ? ONE : ZERO;
         }
 
         static int kindOf(long value) {
@@ -210,19 +230,19 @@ public final class HeapQueries {
         }
 
         static boolean isEmpty(long value) {
-            return kindOf(value) == EMPTY_KIND;
+            return value == EMPTY;
         }
 
         static boolean isNumber(long value) {
-            return kindOf(value) == NUMBER_KIND;
+            return value >>> HALF == NUMBER_KIND;
         }
 
         static boolean isLink(long value) {
-            return kindOf(value) == LINK_KIND;
+            return value >>> HALF == LINK_KIND;
         }
 
         static boolean isError(long value) {
-            return kindOf(value) == ERROR_KIND;
+            return value >>> HALF == ERROR_KIND;
         }
 
         /** 1 or 0 as conditions take the value, the error TYPE for a link; an error stays what it is. */
@@ -233,11 +253,7 @@ public final class HeapQueries {
             if (isLink(value)) {
                 return error(TYPE);
             }
-            return flag(isNumber(value) && contentOf(value) != 0);
-        }
-
-        private static long packed(int kind, int content) {
-            return ((long) kind << HALF) | (content & LOWER_HALF);
+            return flag(value != EMPTY && value != ZERO);
         }
     }
 
@@ -252,7 +268,8 @@ public final class HeapQueries {
         private int objectCount;
         private int roots;
 
-        private final Survey survey = new Survey();
+        // As it was when it was taken: refreshSurvey comes before any look at it.
+        final Survey survey = new Survey();
         private boolean changed;
 
         int makeClass(int parent) {
@@ -325,13 +342,11 @@ public final class HeapQueries {
             return false;
         }
 
-        /** What follows from the links and the roots, taken anew only after a change. */
-        Survey survey() {
+        void refreshSurvey() {
             if (changed) {
                 survey.takeOf(this);
                 changed = false;
             }
-            return survey;
         }
     }
 
@@ -342,6 +357,7 @@ public final class HeapQueries {
         private final int[] retainedSets = new int[MAX_OBJECTS];
         private final int[] retainedSizes = new int[MAX_OBJECTS];
         private final int[] dominators = new int[MAX_OBJECTS];
+        private final int[] immediateDominators = new int[MAX_OBJECTS];
         private int objectCount;
         private int roots;
         private int reachable;
@@ -358,6 +374,9 @@ public final class HeapQueries {
             for (int object = 0; object < objectCount; object++) {
                 dominators[object] = findDominators(object);
             }
+            for (int object = 0; object < objectCount; object++) {
+                immediateDominators[object] = findImmediateDominator(object);
+            }
         }
 
         int retainedSizeOf(int object) {
@@ -369,14 +388,7 @@ public final class HeapQueries {
         }
 
         int immediateDominatorOf(int object) {
-            int all = dominators[object];
-            for (int candidate = 0; candidate < objectCount; candidate++) {
-                int others = all & ~(1 << candidate);
-                if (others != all && (others & ~dominators[candidate]) == 0) {
-                    return candidate;
-                }
-            }
-            return NONE;
+            return immediateDominators[object];
         }
 
         /** The set retained by a set of objects. */
@@ -432,6 +444,17 @@ public final class HeapQueries {
                 }
             }
             return found;
+        }
+
+        private int findImmediateDominator(int object) {
+            int all = dominators[object];
+            for (int candidate = 0; candidate < objectCount; candidate++) {
+                int others = all & ~(1 << candidate);
+                if (others != all && (others & ~dominators[candidate]) == 0) {
+                    return candidate;
+                }
+            }
+            return NONE;
         }
     }
 
@@ -672,7 +695,7 @@ public final class HeapQueries {
         Select next;
     }
 
-    /** Makes a tree of a whole text. What it finds missing cannot be: only a text of the grammar is taken. */
+    /** Makes trees of a whole text. It need not look for faults: the tokens that were taken keep to the grammar. */
     private static final class Reader {
         private static final int NO_OPERATOR = 0;
         private static final int OR_LEVEL = 1;
@@ -835,7 +858,7 @@ public final class HeapQueries {
         private static long valueOfUnary(Heap heap, Node e, long operand) {
             if (e.code == NOT) {
                 long truth = Value.truthOf(operand);
-                return Value.isError(truth) ? truth : Value.flag(Value.contentOf(truth) == 0);
+                return Value.isError(truth) ? truth : Value.flag(truth == Value.ZERO);
             }
             if (Value.isEmpty(operand)) {
                 return Value.EMPTY;
@@ -856,12 +879,12 @@ public final class HeapQueries {
                 case ITS_SIZE:
                     return Value.number(heap.sizeOf(object));
                 case ITS_RETAINED_SIZE:
-                    return Value.number(heap.survey().retainedSizeOf(object));
+                    return Value.number(heap.survey.retainedSizeOf(object));
                 case ITS_DOMINATOR:
-                    int dominator = heap.survey().immediateDominatorOf(object);
-                    return dominator == NONE ? Value.EMPTY : Value.link(dominator);
+                    int immediate = heap.survey.immediateDominatorOf(object);
+                    return immediate == NONE ? Value.EMPTY : Value.link(immediate);
                 case ITS_LINK_COUNT:
-                    return Value.number(heap.survey().linkCountOf(object));
+                    return Value.number(heap.survey.linkCountOf(object));
                 default:
                     return Value.EMPTY;
             }
@@ -873,7 +896,7 @@ public final class HeapQueries {
                 return false;
             }
             long truth = Value.truthOf(left);
-            return Value.isError(truth) || (Value.contentOf(truth) != 0) == (code == OR);
+            return Value.isError(truth) || truth == (code == OR ? Value.ONE : Value.ZERO);
         }
 
         private static long valueOfBinary(int code, long left, long right) {
@@ -895,7 +918,7 @@ public final class HeapQueries {
                 return Value.error(TYPE);
             }
             if (Value.isEmpty(left) || Value.isEmpty(right)) {
-                return code == LESS ? Value.number(0) : Value.EMPTY;
+                return code == LESS ? Value.ZERO : Value.EMPTY;
             }
             int x = Value.contentOf(left);
             int y = Value.contentOf(right);
@@ -938,17 +961,16 @@ public final class HeapQueries {
             return looks;
         }
 
-        int workOut(Heap heap, Select query) {
+        void begin() {
             count = 0;
             looks = 0;
-            int error = addQuery(heap, query, 0);
-            if (error != NO_ERROR) {
-                count = 0;
-            }
-            return error;
         }
 
-        private int addQuery(Heap heap, Select first, int depth) {
+        void dropRows() {
+            count = 0;
+        }
+
+        int addQuery(Heap heap, Select first, int depth) {
             if (depth > MAX_SELECTS) {
                 return NO_ERROR;
             }
@@ -1010,12 +1032,12 @@ public final class HeapQueries {
                 int self = Value.contentOf(rows[i]);
                 looks++;
                 long truth = select.condition == null
-                        ? Value.flag(true)
+                        ? Value.ONE
                         : Value.truthOf(Calculator.valueOf(heap, select.condition, self, 0));
                 if (Value.isError(truth)) {
                     return Value.contentOf(truth);
                 }
-                if (Value.contentOf(truth) == 0) {
+                if (truth == Value.ZERO) {
                     continue;
                 }
                 long row = Calculator.valueOf(heap, select.row, self, 0);
@@ -1037,7 +1059,7 @@ public final class HeapQueries {
                     linked |= 1 << Value.contentOf(rows[i]);
                 }
             }
-            int kept = heap.survey().retainedBy(linked);
+            int kept = heap.survey.retainedBy(linked);
             count = start;
             for (int object = 0; object < heap.size(); object++) {
                 if ((kept & 1 << object) != 0) {

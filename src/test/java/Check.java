@@ -2,25 +2,39 @@ import java.util.List;
 
 /** Compares answers with those that are due, and writes queries as words. */
 final class Check {
+    static final int MIN = Integer.MIN_VALUE;
+    static final int MAX = Integer.MAX_VALUE;
+
     static final List<String> WORDS = List.of(
             "SELECT", "DISTINCT", "RETAINED", "FROM", "WHERE", "UNION", "OPEN", "CLOSE", "CLASS", "INSTANCEOF",
             "NUMBER", "NULL", "THIS", "FIELD", "AT", "OR", "AND", "NOT", "EQ", "NE", "LESS", "PLUS", "MINUS",
             "TIMES", "END");
 
+    private static String sentence = "";
+    private static int sentences = 0;
     private static int wrong = 0;
 
     private Check() {
     }
 
+    /** Runs the test of one sentence of the document, whose words are printed with each answer that is not as due. */
+    static void sentence(String words, Runnable test) {
+        sentence = "'" + words + "': ";
+        sentences++;
+        test.run();
+        sentence = "";
+    }
+
     static void due(String call, Object got, Object want) {
         if (!got.equals(want)) {
             wrong++;
-            System.out.println(call + " answered " + got + ", due is " + want);
+            System.out.println(sentence + call + " answered " + got + ", due is " + want);
         }
     }
 
     static void end() {
-        System.out.println(wrong == 0 ? "all answers are as due" : wrong + " answers are not as due");
+        String tested = sentences == 0 ? "" : sentences + " sentences, ";
+        System.out.println(tested + (wrong == 0 ? "all answers are as due" : wrong + " answers are not as due"));
         if (wrong != 0) {
             System.exit(1);
         }
@@ -52,6 +66,11 @@ final class Check {
     /** Runs the tokens that are there and compares the rows. */
     static void again(HeapQueries queries, String text, int looked, String... want) {
         due(text + ": run()", queries.run(), want.length);
+        latest(queries, text, looked, want);
+    }
+
+    /** Compares the rows of the latest run. */
+    static void latest(HeapQueries queries, String text, int looked, String... want) {
         due(text + ": rows()", queries.rows(), want.length);
         due(text + ": looked()", queries.looked(), looked);
         for (int i = 0; i < want.length; i++) {
@@ -65,9 +84,7 @@ final class Check {
     static void error(HeapQueries queries, String text, int looked, int error) {
         write(queries, text);
         due(text + ": run()", queries.run(), error);
-        due(text + ": rows()", queries.rows(), 0);
-        due(text + ": looked()", queries.looked(), looked);
-        noRow(queries, text, 0);
+        latest(queries, text, looked);
     }
 
     static void noRow(HeapQueries queries, String text, int i) {
@@ -76,13 +93,14 @@ final class Check {
     }
 
     static String row(HeapQueries queries, int i) {
+        int value = queries.value(i);
         switch (queries.kind(i)) {
             case 0:
-                return queries.value(i) == 0 ? "n" : "null with value " + queries.value(i);
+                return value == 0 ? "n" : "null with value " + value;
             case 1:
-                return Integer.toString(queries.value(i));
+                return Integer.toString(value);
             case 2:
-                return "@" + queries.value(i);
+                return "@" + value;
             default:
                 return "no row";
         }

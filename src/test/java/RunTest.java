@@ -60,7 +60,8 @@ public final class RunTest {
     private static void incomplete() {
         HeapQueries x = Heaps.family();
         Check.due("without tokens: run()", x.run(), INCOMPLETE);
-        for (String token : "SELECT OPEN THIS CLOSE FROM OPEN SELECT THIS FROM CLASS:1 CLOSE WHERE NOT NULL".split(" ")) {
+        String text = "SELECT OPEN THIS CLOSE FROM OPEN SELECT THIS FROM CLASS:1 CLOSE WHERE NOT NULL";
+        for (String token : text.split(" ")) {
             Check.due("token " + token, Check.give(x, token), true);
             Check.due("behind " + token + ": run()", x.run(), INCOMPLETE);
             Check.due("a refused token", x.token(25, 0), false);
@@ -167,12 +168,12 @@ public final class RunTest {
         String nested = "SELECT THIS FROM OPEN ".repeat(7) + "SELECT THIS FROM CLASS:0" + " CLOSE".repeat(7);
         Check.rows(Heaps.ring(), nested + " END", 192, links(0, 24));
         Check.rows(Heaps.ring(), "SELECT THIS" + " FIELD:0".repeat(35) + " FROM CLASS:0 END", 24, links(35, 24));
-        Check.rows(Heaps.ring(), "SELECT THIS FROM OPEN SELECT RETAINED THIS FROM CLASS:0 WHERE NOT THIS AT:0 CLOSE END",
-                48, links(0, 24));
+        String grown = "SELECT THIS FROM OPEN SELECT RETAINED THIS FROM CLASS:0 WHERE NOT THIS AT:0 CLOSE END";
+        Check.rows(Heaps.ring(), grown, 48, links(0, 24));
         String six = "SELECT RETAINED THIS FROM CLASS:0 UNION ".repeat(5) + "SELECT RETAINED THIS FROM CLASS:0";
         Check.rows(Heaps.ring(), six + " END", 144, links(0, 144));
-        String union = "SELECT THIS FROM OPEN " + "SELECT THIS FROM CLASS:0 UNION ".repeat(6) + "SELECT THIS FROM CLASS:0 CLOSE";
-        Check.rows(Heaps.ring(), union + " END", 336, links(0, 168));
+        String seven = "SELECT THIS FROM CLASS:0 UNION ".repeat(6) + "SELECT THIS FROM CLASS:0";
+        Check.rows(Heaps.ring(), "SELECT THIS FROM OPEN " + seven + " CLOSE END", 336, links(0, 168));
     }
 
     private static void noRowsWithError() {

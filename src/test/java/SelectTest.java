@@ -63,10 +63,9 @@ public final class SelectTest {
         Check.error(x, "SELECT THIS FIELD:3 FIELD:0 FROM INSTANCEOF:0 END", 2, PATH);
         Check.error(x, "SELECT NOT THIS FROM OPEN SELECT THIS FIELD:3 FIELD:0 FROM INSTANCEOF:0 CLOSE END", 2, PATH);
         Check.error(x, "SELECT RETAINED NUMBER:1 FROM CLASS:1 UNION SELECT NOT THIS FROM CLASS:1 END", 2, OBJECTS);
-        Check.error(x, "SELECT THIS FROM OPEN SELECT NOT THIS FROM CLASS:1 UNION SELECT NUMBER:1 FROM CLASS:0 CLOSE END",
-                1, TYPE);
-        Check.error(x, "SELECT THIS FROM OPEN SELECT NUMBER:1 FROM CLASS:1 UNION SELECT NOT THIS FROM CLASS:0 CLOSE END",
-                3, TYPE);
+        String from = "SELECT THIS FROM OPEN ";
+        Check.error(x, from + "SELECT NOT THIS FROM CLASS:1 UNION SELECT NUMBER:1 FROM CLASS:0 CLOSE END", 1, TYPE);
+        Check.error(x, from + "SELECT NUMBER:1 FROM CLASS:1 UNION SELECT NOT THIS FROM CLASS:0 CLOSE END", 3, TYPE);
     }
 
     private static void nothingBeforeError() {
@@ -189,7 +188,8 @@ public final class SelectTest {
         Check.rows(x, "SELECT NOT THIS FROM OPEN SELECT THIS FROM CLASS:1 WHERE NULL CLOSE END", 2);
         Check.rows(x, "SELECT NOT THIS FROM OPEN SELECT RETAINED THIS FROM CLASS:3 WHERE THIS AT:2 EQ NUMBER:7"
                 + " CLOSE END", 2);
-        Check.rows(x, "SELECT THIS FROM OPEN SELECT THIS FROM CLASS:4 CLOSE UNION SELECT THIS FROM CLASS:0 END", 1, "@0");
+        Check.rows(x, "SELECT THIS FROM OPEN SELECT THIS FROM CLASS:4 CLOSE UNION SELECT THIS FROM CLASS:0 END", 1,
+                "@0");
     }
 
     private static void thisIsTheObject() {
@@ -265,7 +265,8 @@ public final class SelectTest {
         HeapQueries x = Heaps.family();
         Check.rows(x, "SELECT NUMBER:4 FROM CLASS:0 UNION SELECT RETAINED THIS FROM CLASS:2 END", 2, "4", "@3", "@4");
         Check.rows(x, "SELECT RETAINED THIS FROM CLASS:2 UNION SELECT NUMBER:4 FROM CLASS:0 END", 2, "@3", "@4", "4");
-        Check.rows(x, "SELECT THIS FROM CLASS:1 UNION SELECT RETAINED THIS FROM CLASS:2 END", 3, "@1", "@2", "@3", "@4");
+        Check.rows(x, "SELECT THIS FROM CLASS:1 UNION SELECT RETAINED THIS FROM CLASS:2 END", 3,
+                "@1", "@2", "@3", "@4");
         Check.rows(x, "SELECT RETAINED THIS FROM CLASS:2 UNION SELECT RETAINED THIS FROM CLASS:2 END", 2,
                 "@3", "@4", "@3", "@4");
     }

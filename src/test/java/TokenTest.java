@@ -55,7 +55,8 @@ public final class TokenTest {
         Check.sentence("were taken (a refused one does not count)", TokenTest::refusedDoNotCount);
         Check.sentence("since the latest clear() (or since the beginning)", TokenTest::fortySinceClear);
         Check.sentence("a text or the beginning of a text, however long the text", TokenTest::beginningsWithoutRoom);
-        Check.sentence("the codes are the beginning of a text, whatever the classes", TokenTest::beginningsWithoutClass);
+        Check.sentence("the codes are the beginning of a text, whatever the classes",
+                TokenTest::beginningsWithoutClass);
         Check.sentence("a text of 40 tokens", TokenTest::longestTexts);
     }
 
@@ -78,7 +79,7 @@ public final class TokenTest {
         return x;
     }
 
-    /** Looks which tokens are taken behind a beginning: the refused ones on one object, each other on one of its own. */
+    /** Looks which tokens are taken behind a beginning: refused ones on one object, each other on one of its own. */
     private static void allowed(String beginning, List<?>... groups) {
         List<?> want = Arrays.stream(groups).flatMap(List::stream).toList();
         HeapQueries refusing = after(beginning);

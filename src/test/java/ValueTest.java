@@ -25,7 +25,8 @@ public final class ValueTest {
         Check.sentence("AT 0 its number, 1 the number of its class, 2 its size", ValueTest::plainFacts);
         Check.sentence("AT 3 its retained size", ValueTest::retainedSize);
         Check.sentence("AT 4: a link to its immediate dominator, null if there is none", ValueTest::immediateDominator);
-        Check.sentence("AT 5 how many fields of all objects (reachable or not) hold a link to it", ValueTest::linkCount);
+        Check.sentence("AT 5 how many fields of all objects (reachable or not) hold a link to it",
+                ValueTest::linkCount);
     }
 
     private static void order() {

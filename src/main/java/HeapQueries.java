@@ -890,7 +890,10 @@ public final class HeapQueries {
             }
         }
 
-        /** Whether an AND or OR is decided by its left operand, so that the right one is not worked out. */
+        /**
+         * Whether an AND or OR is decided by its left operand, so that the right one is not worked out. A link
+         * decides too: the document names its error ahead of the right operand, and the first error ends everything.
+         */
         private static boolean settles(int code, long left) {
             if (code != AND && code != OR) {
                 return false;
